@@ -922,6 +922,7 @@ public final class LandReform {
     private static final class Rings {
         private final int[] homes = new int[MOST_IN_RINGS];
         private final int[] fieldsHad = new int[MOST_IN_RINGS];
+        private final int[] placesHad = new int[MOST_IN_RINGS];
         private final int[] fieldsGot = new int[MOST_IN_RINGS];
         private final int[] pointedAt = new int[MOST_IN_RINGS];
         private int size;
@@ -934,41 +935,39 @@ public final class LandReform {
             for (int i = 0; i < size; i++) {
                 homes[i] = people.homeOf(person + i);
                 fieldsHad[i] = land.firstFieldOf(person + i);
-                fieldsGot[i] = NONE;
-                pointedAt[i] = i;
                 if (fieldsHad[i] == NONE) {
                     return false;
                 }
+                placesHad[i] = land.placeOf(fieldsHad[i]);
+                fieldsGot[i] = NONE;
+                pointedAt[i] = i;
             }
             // Each round closes at least one ring, so there are no more rounds than persons.
             for (int round = 0; round < size; round++) {
-                point(land);
+                point();
                 leaveInRings();
             }
             return true;
         }
 
-        private void point(Land land) {
+        private void point() {
             for (int i = 0; i < size; i++) {
                 if (fieldsGot[i] == NONE) {
-                    pointedAt[i] = holderOfNearest(i, land);
+                    pointedAt[i] = holderOfNearest(i);
                 }
             }
         }
 
-        private int holderOfNearest(int i, Land land) {
+        private int holderOfNearest(int i) {
             int best = i;
             for (int j = 0; j < size; j++) {
-                if (fieldsGot[j] == NONE && isWantedMore(fieldsHad[j], fieldsHad[best], homes[i], land)) {
+                int nearer = Math.abs(placesHad[best] - homes[i]) - Math.abs(placesHad[j] - homes[i]);
+                boolean isWantedMore = nearer > 0 || nearer == 0 && fieldsHad[j] < fieldsHad[best];
+                if (fieldsGot[j] == NONE && isWantedMore) {
                     best = j;
                 }
             }
             return best;
-        }
-
-        private static boolean isWantedMore(int field, int other, int home, Land land) {
-            int nearer = land.distance(other, home) - land.distance(field, home);
-            return nearer > 0 || nearer == 0 && field < other;
         }
 
         private void leaveInRings() {

@@ -816,6 +816,20 @@ public final class PromiseTest {
         y.field(50, 1, 0, 0, 0);
         due("rings", y.rings(0, 2, NONE), 2);
         due("both want field 0", y.rings(0, 2, 0), 1);
+        LandReform z = withHomes(50, 60);
+        z.field(40, 1, 0, 0, 1);
+        z.field(60, 1, 0, 0, 0);
+        due("rings", z.rings(0, 2, NONE), 1);
+        due("as near as its own, but less", z.rings(0, 2, 0), 0);
+        LandReform w = withHomes(50, 40);
+        w.field(60, 1, 0, 0, 0);
+        w.field(40, 1, 0, 0, 1);
+        due("rings", w.rings(0, 2, NONE), 2);
+        due("its own is as near and less", w.rings(0, 2, 0), 0);
+        LandReform v = withHomes(51, 60);
+        v.field(40, 1, 0, 0, 1);
+        v.field(61, 1, 0, 0, 0);
+        due("nearer by one", v.rings(0, 2, NONE), 2);
     }
 
     private static void swap() {
