@@ -1,10 +1,13 @@
 import java.lang.reflect.Constructor;
 import java.lang.reflect.Field;
+import java.lang.reflect.InvocationTargetException;
 import java.lang.reflect.Method;
 import java.lang.reflect.Modifier;
 import java.nio.file.Files;
 import java.nio.file.Path;
 import java.util.Arrays;
+import java.util.Comparator;
+import java.util.Random;
 import java.util.Set;
 import java.util.TreeSet;
 import java.util.regex.Matcher;
@@ -34,6 +37,7 @@ public final class LanguageTest {
         }
         shape(LandReform.class);
         check(LandReform.class.getDeclaredClasses().length <= 11, "at most twelve classes");
+        noCallThrows();
         words(Files.readString(Path.of(args.length > 0 ? args[0] : "src/main/java/LandReform.java")));
         System.out.println(wrong + " rules broken");
         if (wrong != 0) {
@@ -80,6 +84,39 @@ public final class LanguageTest {
             check(m.getParameterCount() <= 7, m + " takes at most seven");
             boolean ofFace = Arrays.stream(FACE).anyMatch(f -> f.contains(" " + m.getName() + "("));
             check(!ofFace || c == LandReform.class && Modifier.isPublic(m.getModifiers()), m + " bears a public name");
+        }
+    }
+
+    /** Any calls with any arguments, more of them than the document promises answers for. */
+    private static void noCallThrows() throws Exception {
+        Method[] calls = Arrays.stream(LandReform.class.getDeclaredMethods())
+                .filter(m -> Modifier.isPublic(m.getModifiers())).toArray(Method[]::new);
+        // Reflection tells them in no certain order, and a run must be the same each time.
+        Arrays.sort(calls, Comparator.comparing(Method::getName));
+        Random random = new Random(1);
+        for (int run = 0; run < 200; run++) {
+            LandReform x = new LandReform();
+            for (int i = 0; i < 1500; i++) {
+                Method m = calls[random.nextInt(calls.length)];
+                Object[] arguments = Arrays.stream(m.getParameterTypes())
+                        .map(t -> t == boolean.class ? (Object) random.nextBoolean() : (Object) anyNumber(random)).toArray();
+                try {
+                    m.invoke(x, arguments);
+                } catch (InvocationTargetException e) {
+                    check(false, "no call throws: " + m.getName() + Arrays.toString(arguments) + " " + e.getCause());
+                }
+            }
+        }
+    }
+
+    private static int anyNumber(Random random) {
+        switch (random.nextInt(12)) {
+            case 0: return random.nextInt();
+            case 1: return Integer.MAX_VALUE - random.nextInt(10);
+            case 2: return Integer.MIN_VALUE + random.nextInt(10);
+            case 3: return -1;
+            case 4: return random.nextInt(1100);
+            default: return random.nextInt(random.nextBoolean() ? 4 : 60);
         }
     }
 

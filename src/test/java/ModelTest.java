@@ -13,8 +13,13 @@ import java.util.TreeSet;
 /** Long runs of calls, the answers against those of a second, slower program made from the document alone. */
 public final class ModelTest {
     private static final int NONE = -1;
-    private static final int RUNS = 1500;
+    private static final int RUNS = 2000;
+    /** The document promises nothing of what an object answers later. */
     private static final int CALLS = 512;
+    /** More than one step of a run can need. */
+    private static final int CALLS_OF_A_STEP = 40;
+    /** Kinds of steps that are one call each. */
+    private static final int[] ONE_CALL = {2, 9, 12, 13, 20, 22, 25, 26, 29};
 
     public static void main(String[] args) {
         int wrong = 0;
@@ -519,6 +524,8 @@ public final class ModelTest {
         final int houses;
         final int manyPersons;
         final int manyFields;
+        final int favourite;
+        int calls = 0;
         int wrong = 0;
 
         Run(int number) {
@@ -527,16 +534,23 @@ public final class ModelTest {
             houses = 1 + random.nextInt(20);
             manyPersons = 2 + random.nextInt(40);
             manyFields = 2 + random.nextInt(60);
+            // Some runs have so much of one kind that its limit is met.
+            favourite = random.nextInt(60);
         }
 
         int go() {
-            for (int i = 0; i < CALLS && wrong == 0; i++) {
-                call(i);
+            while (calls < CALLS && wrong == 0) {
+                if (calls + CALLS_OF_A_STEP <= CALLS) {
+                    step();
+                } else {
+                    callOther(ONE_CALL[random.nextInt(ONE_CALL.length)]);
+                }
             }
             return wrong;
         }
 
         void due(String call, int got, int want) {
+            calls++;
             if (got != want) {
                 wrong++;
                 System.out.println("run " + number + ": " + call + " answered " + got + ", due is " + want);
@@ -562,13 +576,15 @@ public final class ModelTest {
             return pick(0, model.fields.size() - 1);
         }
 
-        void call(int i) {
+        void step() {
             int persons = model.persons.size();
             int fields = model.fields.size();
             if (persons < 2 || persons < manyPersons && random.nextInt(3) == 0) {
                 callPerson();
             } else if (fields < 2 || fields < manyFields && random.nextInt(2) == 0) {
                 callField();
+            } else if (favourite < 30 && random.nextBoolean()) {
+                callOther(favourite);
             } else {
                 callOther(random.nextInt(30));
             }
