@@ -1188,6 +1188,22 @@ public final class BoundaryTest {
         due("today", z.owned(0, 1000), 1);
         due("again", z.swap(0, 3), 0);
         due("transfers", z.count(3), 2);
+        swappedByEight();
+    }
+
+    private static void swappedByEight() {
+        LandReform x = withHomes(10, 20, 30, 40, 50, 60, 70, 80);
+        tellPlaces(x, 20, 30, 40, 50, 60, 70, 80, 10);
+        due("eight would change", x.rings(0, 8, NONE), 1);
+        due("of two alone none does", x.swap(0, 2), 0);
+        due("transfers", x.count(3), 0);
+        due("eight change", x.swap(0, 8), 8);
+        due("transfers", x.count(3), 8);
+        for (int i = 0; i < 8; i++) {
+            due("owner of " + i, x.told(i, 4), (i + 1) % 8);
+            due("transfers of " + i, x.told(i, 9), 1);
+        }
+        due("again", x.swap(0, 8), 0);
     }
 
     private static LandReform sold(int area, String act) {
